@@ -76,6 +76,14 @@ public final class MappingTest {
         Check.is("with an empty one, too", 1, x.lossWith(0, 0));
         x.drop(0, 2);
         mappingIs(x, "no group is needed", ShareMover.NONE, 0, 0b10110, 0);
+        x.setMember(4, 1, false);
+        x.setMember(4, 2, false);
+        for (int person = 3; person <= 7; person++) {
+            x.setMember(4, person, true);
+        }
+        give(x, 3, 7);
+        // The same with the others: 2 is alone among them when 3, 4 and 1 are named.
+        mappingIs(x, "alone among the others", 4, 1, 0b11010, 0);
     }
 
     private static void theLeastLossWins() {

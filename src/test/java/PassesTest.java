@@ -176,8 +176,12 @@ public final class PassesTest {
         x.drop(1, 0);
         x.allow(1, 3, true, 3, ShareMover.HERE);
         Check.is("3 has one right less, and more others", 12, x.gainers(1));
+        x.pass();
+        x.drop(1, 0);
+        x.allow(1, 3, true, 4, ShareMover.HERE);
+        Check.is("3 has two rights less, and a higher one", 8, x.gainers(1));
         x.setOwner(0, 7);
-        Check.is("the owner then", 5, x.gainers(0));
+        Check.is("the owner then", 1, x.gainers(0));
         x.turn(1);
         Check.is("nobody when it is switched back", 0, x.gainers(1));
         x.pass();
