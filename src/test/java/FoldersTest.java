@@ -1,35 +1,49 @@
-/** Promises 1 and 5 to 12: a new object, the folders, their entries and the rights by them. */
+/** Promises 1 and 5 to 12: a new object, the folders, their entries and the rights by them. What they throw is in RefusalsTest. */
 public final class FoldersTest {
-    private static final int[] NO_FOLDERS = {-1, 1, 20, Integer.MIN_VALUE, Integer.MAX_VALUE};
-    private static final int[] NO_PERSONS = {-1, 8, 13, Integer.MIN_VALUE, Integer.MAX_VALUE};
-    private static final int[] NOBODY = {-1, 14, Integer.MIN_VALUE, Integer.MAX_VALUE};
-    private static final int[] NO_RIGHTS = {-1, 0, 8, Integer.MIN_VALUE, Integer.MAX_VALUE};
-    private static final int[] NO_SCOPES = {-1, 3, Integer.MIN_VALUE, Integer.MAX_VALUE};
+    private static final int[] RIGHTS = {4, 2, 1};
 
     public static void main(String[] args) {
         promise1NewObject();
+        promise1NoGroupIsInAnother();
+        promise1ObjectsShareNothing();
         promise5AddFolder();
-        promise5WrongInputs();
+        promise5UpToTwenty();
         promise6SetOwner();
-        promise6WrongInputs();
+        promise6EachPersonAndFolder();
         promise7SetInherits();
-        promise7WrongInputs();
+        promise7EachLevelCuts();
+        promise7TheFolderWithoutParent();
         promise8Allow();
-        promise8WrongInputs();
-        promise8WhichExceptionComesFirst();
+        promise8Everybody();
+        promise8EachRightsAndScope();
+        promise8BehindTheOthers();
         promise9Drop();
-        promise9WrongInputs();
+        promise9EachEntryOfSix();
         promise10Folders();
         promises11And12TheFirstDecides();
+        promises11And12EachRightAlone();
+        promises11And12WhatIsDecidedStays();
         promises11And12ScopesAndLevels();
+        promises11And12TheOrder();
+        promises11And12TheLastOfAllDecides();
         promises11And12Groups();
-        promises11And12WrongInputs();
+        promises11And12TheOwner();
+        promises11And12SwitchedOrNot();
         Check.end();
     }
 
     private static void rightsAre(ShareMover x, String what, int due, int person, int folder) {
         Check.is(what, due, x.rights(person, folder));
         Check.is(what + ", backwards", due, x.rightsBackwards(person, folder));
+    }
+
+    /** Twenty folders, each below the one before, all owned by the person 0. */
+    private static ShareMover chain() {
+        ShareMover x = new ShareMover();
+        for (int number = 1; number < 20; number++) {
+            x.addFolder(number - 1, 0);
+        }
+        return x;
     }
 
     private static void promise1NewObject() {
@@ -43,17 +57,43 @@ public final class FoldersTest {
         for (int person = 1; person < 8; person++) {
             rightsAre(x, "no rights of " + person, 0, person, 0);
         }
-        for (int group = 0; group < 6; group++) {
-            Check.is("empty group", 0, x.members(group));
-        }
+        Check.is("its owner is 0", 0, x.setOwner(0, 0));
         Check.is("inherits", true, x.setInherits(0, true));
         Check.noSuch("has no entries", () -> x.drop(0, 0));
+        Check.is("has no kept mapping to be fresh", false, x.isFresh(0));
         Check.badState("has no kept mapping", () -> Check.bit(x.turn(0)));
+        Check.is("nobody gains", 0, x.gainers(0));
+    }
+
+    private static void promise1NoGroupIsInAnother() {
+        ShareMover x = new ShareMover();
+        for (int outer = 0; outer < 6; outer++) {
+            Check.is("empty group", 0, x.members(outer));
+            for (int inner = 0; inner < 6; inner++) {
+                if (inner != outer) {
+                    Check.is("was not in it", true, x.nest(outer, inner));
+                    Check.is("and is not again", false, x.nest(outer, inner));
+                }
+            }
+        }
+    }
+
+    private static void promise1ObjectsShareNothing() {
+        ShareMover x = new ShareMover();
         ShareMover other = new ShareMover();
         x.setMember(0, 1, true);
+        x.nest(1, 0);
         x.addFolder(0, 1);
-        Check.is("objects share no folders", 1, other.folders());
-        Check.is("objects share no groups", 0, other.members(0));
+        x.setOwner(0, 1);
+        x.allow(0, 2, true, 7, ShareMover.HERE);
+        x.pass();
+        Check.is("no folders", 1, other.folders());
+        Check.is("no groups", 0, other.members(0));
+        Check.is("no groups in groups", true, other.nest(1, 0));
+        Check.is("no owner", 0, other.setOwner(0, 0));
+        Check.is("no entries", 0, other.rights(2, 0));
+        Check.is("nothing kept", false, other.isFresh(0));
+        Check.is("no mapping", 0, other.mapped(2, 0));
     }
 
     private static void promise5AddFolder() {
@@ -70,24 +110,35 @@ public final class FoldersTest {
         Check.is("inherits at first", true, x.setInherits(2, true));
         Check.noSuch("has no entries at first", () -> x.drop(2, 0));
         Check.badState("has no kept mapping", () -> Check.bit(x.turn(2)));
-        for (int number = 4; number < 20; number++) {
-            Check.is("more", number, x.addFolder(number - 1, number % 8));
+        x.setInherits(1, false);
+        x.pass();
+        x.turn(1);
+        Check.is("below one that is cut and switched", 4, x.addFolder(1, 6));
+        Check.is("it inherits all the same", true, x.setInherits(4, true));
+        Check.is("it is not switched", 4, x.rightsNow(5, 4));
+        Check.badState("and has nothing kept", () -> Check.bit(x.turn(4)));
+    }
+
+    private static void promise5UpToTwenty() {
+        ShareMover x = new ShareMover();
+        x.allow(0, 7, true, 3, ShareMover.BELOW);
+        for (int number = 1; number < 20; number++) {
+            Check.noSuch("not there yet: " + number, () -> x.addFolder(x.folders(), 0));
+            Check.is("below the last one", number, x.addFolder(number - 1, number % 7));
+            rightsAre(x, "its owner", 7, number % 7, number);
+            rightsAre(x, "from all above it", 3, 7, number);
         }
         Check.badState("the 21st", () -> x.addFolder(0, 0));
+        Check.badState("the 21st below the 20th", () -> x.addFolder(19, 7));
         Check.noSuch("no such parent goes ahead", () -> x.addFolder(20, 0));
         Check.noSuch("no such owner goes ahead", () -> x.addFolder(19, 8));
         Check.is("20 stay", 20, x.folders());
-    }
-
-    private static void promise5WrongInputs() {
-        ShareMover x = new ShareMover();
-        for (int parent : NO_FOLDERS) {
-            Check.noSuch("addFolder in " + parent, () -> x.addFolder(parent, 0));
+        ShareMover flat = new ShareMover();
+        for (int number = 1; number < 20; number++) {
+            Check.is("below the first one", number, flat.addFolder(0, 7));
         }
-        for (int owner : NO_PERSONS) {
-            Check.noSuch("addFolder of " + owner, () -> x.addFolder(0, owner));
-        }
-        Check.is("none was added", 1, x.folders());
+        rightsAre(flat, "the owner of the last", 7, 7, 19);
+        Check.badState("the 21st below the first", () -> flat.addFolder(0, 0));
     }
 
     private static void promise6SetOwner() {
@@ -102,15 +153,21 @@ public final class FoldersTest {
         rightsAre(x, "it is denied then", 0, 7, 0);
     }
 
-    private static void promise6WrongInputs() {
-        ShareMover x = new ShareMover();
-        for (int folder : NO_FOLDERS) {
-            Check.noSuch("setOwner of " + folder, () -> x.setOwner(folder, 1));
+    private static void promise6EachPersonAndFolder() {
+        ShareMover x = chain();
+        int before = 0;
+        for (int owner = 7; owner >= 0; owner--) {
+            Check.is("the owner before", before, x.setOwner(19, owner));
+            before = owner;
+            for (int person = 0; person < 8; person++) {
+                rightsAre(x, "owner " + owner, person == owner ? 7 : 0, person, 19);
+            }
         }
-        for (int owner : NO_PERSONS) {
-            Check.noSuch("setOwner to " + owner, () -> x.setOwner(0, owner));
-        }
-        rightsAre(x, "0 is the owner still", 7, 0, 0);
+        x.setOwner(19, 3);
+        Check.is("the folder above is left alone", 0, x.setOwner(18, 5));
+        rightsAre(x, "the owner above is none below", 0, 5, 19);
+        Check.is("nor is the other one changed", 3, x.setOwner(19, 3));
+        Check.is("the first folder, too", 0, x.setOwner(0, 0));
     }
 
     private static void promise7SetInherits() {
@@ -131,17 +188,34 @@ public final class FoldersTest {
         rightsAre(x, "2 is cut still", 1, 1, 2);
         Check.is("2 did not", false, x.setInherits(2, true));
         rightsAre(x, "all again", 7, 1, 2);
-        Check.is("0 has no parent, and inherits", true, x.setInherits(0, false));
-        rightsAre(x, "from 0 it comes all the same", 7, 1, 2);
-        Check.is("0 does not any more", false, x.setInherits(0, true));
     }
 
-    private static void promise7WrongInputs() {
-        ShareMover x = new ShareMover();
-        for (int folder : NO_FOLDERS) {
-            Check.noSuch("setInherits of " + folder, () -> Check.bit(x.setInherits(folder, false)));
+    /** A cut folder gives its own entries to those below, and none from above it. */
+    private static void promise7EachLevelCuts() {
+        for (int cut = 1; cut < 20; cut++) {
+            ShareMover x = chain();
+            x.allow(cut - 1, 1, true, 4, ShareMover.BOTH);
+            x.allow(cut, 1, true, 2, ShareMover.BOTH);
+            rightsAre(x, "uncut at " + cut, 6, 1, 19);
+            Check.is("it did", true, x.setInherits(cut, false));
+            rightsAre(x, "cut at " + cut, 2, 1, 19);
+            rightsAre(x, "the cut one itself", 2, 1, cut);
+            rightsAre(x, "the one above it", 4, 1, cut - 1);
+            Check.is("it did not", false, x.setInherits(cut, true));
+            rightsAre(x, "uncut again at " + cut, 6, 1, 19);
         }
-        Check.is("nothing changed", true, x.setInherits(0, true));
+    }
+
+    private static void promise7TheFolderWithoutParent() {
+        ShareMover x = chain();
+        x.allow(0, 1, true, 4, ShareMover.BOTH);
+        Check.is("0 has no parent, and inherits", true, x.setInherits(0, false));
+        rightsAre(x, "from 0 it comes all the same", 4, 1, 19);
+        rightsAre(x, "0 has its own", 4, 1, 0);
+        Check.is("0 does not any more", false, x.setInherits(0, false));
+        Check.is("0 did not", false, x.setInherits(0, true));
+        Check.is("0 does again", true, x.setInherits(0, true));
+        rightsAre(x, "all the same", 4, 1, 0);
     }
 
     private static void promise8Allow() {
@@ -154,42 +228,61 @@ public final class FoldersTest {
         }
         Check.badState("the 7th", () -> x.allow(0, 7, true, 7, ShareMover.HERE));
         rightsAre(x, "it is not there", 0, 7, 0);
+        Check.is("there is room for it then", 1, x.drop(0, 0));
+        Check.is("the 6th", 6, x.allow(0, 7, true, 7, ShareMover.HERE));
+        Check.badState("the 7th again", () -> x.allow(0, 1, true, 1, ShareMover.HERE));
         x.addFolder(0, 0);
         Check.is("other folders have their own", 1, x.allow(1, 13, false, 7, ShareMover.BELOW));
         Check.is("a second one", 2, x.allow(1, 0, false, 1, ShareMover.HERE));
         Check.is("the last is behind the others", 1, x.drop(1, 1));
     }
 
-    private static void promise8WrongInputs() {
-        ShareMover x = new ShareMover();
-        for (int folder : NO_FOLDERS) {
-            Check.noSuch("allow in " + folder, () -> x.allow(folder, 1, true, 7, ShareMover.HERE));
+    /** Somebody is a person, 0 to 7, or 8 and the number of a group. */
+    private static void promise8Everybody() {
+        for (int who = 0; who < 14; who++) {
+            ShareMover x = new ShareMover();
+            x.setOwner(0, who == 3 ? 4 : 3);
+            for (int group = 0; group < 6; group++) {
+                x.setMember(group, group, true);
+                x.setMember(group, 6, group == 0);
+                x.setMember(group, 7, group == 5);
+            }
+            Check.is("an entry for " + who, 1, x.allow(0, who, true, 5, ShareMover.HERE));
+            for (int person = 0; person < 8; person++) {
+                boolean meant = who < 8 ? person == who : (x.members(who - 8) & 1 << person) != 0;
+                boolean owns = person == (who == 3 ? 4 : 3);
+                rightsAre(x, who + " is for " + person, owns ? 7 : meant ? 5 : 0, person, 0);
+            }
         }
-        for (int who : NOBODY) {
-            Check.noSuch("allow to " + who, () -> x.allow(0, who, true, 7, ShareMover.HERE));
-        }
-        for (int rights : NO_RIGHTS) {
-            Check.badArgument("allow of " + rights, () -> x.allow(0, 1, true, rights, ShareMover.HERE));
-        }
-        for (int scope : NO_SCOPES) {
-            Check.badArgument("allow for " + scope, () -> x.allow(0, 1, true, 7, scope));
-        }
-        rightsAre(x, "nothing changed", 0, 1, 0);
-        Check.is("it is the first entry", 1, x.allow(0, 1, true, 7, ShareMover.HERE));
     }
 
-    private static void promise8WhichExceptionComesFirst() {
-        ShareMover x = new ShareMover();
-        Check.noSuch("folder, rights", () -> x.allow(1, 1, true, 0, ShareMover.HERE));
-        Check.noSuch("who, scope", () -> x.allow(0, 14, true, 1, 3));
-        for (int i = 0; i < 6; i++) {
-            x.allow(0, 1, true, 1, ShareMover.HERE);
+    private static void promise8EachRightsAndScope() {
+        for (int rights = 1; rights <= 7; rights++) {
+            for (int scope = 0; scope <= 2; scope++) {
+                ShareMover x = new ShareMover();
+                x.addFolder(0, 0);
+                x.addFolder(1, 0);
+                x.allow(1, 7, true, rights, scope);
+                rightsAre(x, "above", 0, 7, 0);
+                rightsAre(x, "here, scope " + scope, scope == ShareMover.BELOW ? 0 : rights, 7, 1);
+                rightsAre(x, "below, scope " + scope, scope == ShareMover.HERE ? 0 : rights, 7, 2);
+                Check.is("rights " + rights, rights, x.drop(1, 0));
+            }
         }
-        Check.noSuch("who, full", () -> x.allow(0, -1, true, 1, ShareMover.HERE));
-        Check.noSuch("who, rights, scope, full", () -> x.allow(0, 14, true, 8, -1));
-        Check.badArgument("rights, full", () -> x.allow(0, 1, true, 8, ShareMover.HERE));
-        Check.badArgument("scope, full", () -> x.allow(0, 1, true, 1, -1));
-        Check.badState("full", () -> x.allow(0, 1, true, 1, ShareMover.HERE));
+    }
+
+    private static void promise8BehindTheOthers() {
+        for (int ahead = 1; ahead < 6; ahead++) {
+            ShareMover x = new ShareMover();
+            x.allow(0, 7, false, 1, ShareMover.HERE);
+            for (int entry = 1; entry < ahead; entry++) {
+                x.allow(0, 6, true, 7, ShareMover.HERE);
+            }
+            Check.is("how many then", ahead + 1, x.allow(0, 7, true, 3, ShareMover.HERE));
+            rightsAre(x, "what is ahead decides", 2, 7, 0);
+            Check.is("it is the last one", 3, x.drop(0, ahead));
+            rightsAre(x, "it is gone", 0, 7, 0);
+        }
     }
 
     private static void promise9Drop() {
@@ -208,16 +301,27 @@ public final class FoldersTest {
         Check.is("there is room again", 1, x.allow(0, 1, true, 7, ShareMover.HERE));
     }
 
-    private static void promise9WrongInputs() {
-        ShareMover x = new ShareMover();
-        x.allow(0, 1, true, 7, ShareMover.HERE);
-        for (int folder : NO_FOLDERS) {
-            Check.noSuch("drop in " + folder, () -> x.drop(folder, 0));
+    private static void promise9EachEntryOfSix() {
+        for (int dropped = 0; dropped < 6; dropped++) {
+            ShareMover x = new ShareMover();
+            x.addFolder(0, 0);
+            x.allow(1, 7, true, 7, ShareMover.BOTH);
+            for (int rights = 1; rights <= 6; rights++) {
+                x.allow(0, rights, true, rights, ShareMover.BOTH);
+            }
+            Check.is("the rights of " + dropped, dropped + 1, x.drop(0, dropped));
+            for (int person = 1; person <= 6; person++) {
+                rightsAre(x, "person " + person, person == dropped + 1 ? 0 : person, person, 0);
+            }
+            Check.noSuch("there are five", () -> x.drop(0, 5));
+            for (int rights = 1; rights <= 6; rights++) {
+                if (rights != dropped + 1) {
+                    Check.is("those left, in their order", rights, x.drop(0, 0));
+                }
+            }
+            Check.noSuch("none is left", () -> x.drop(0, 0));
+            rightsAre(x, "the other folder is left alone", 7, 7, 1);
         }
-        for (int entry : new int[] {-1, 1, 6, Integer.MIN_VALUE, Integer.MAX_VALUE}) {
-            Check.noSuch("drop of " + entry, () -> x.drop(0, entry));
-        }
-        rightsAre(x, "it is there", 7, 1, 0);
     }
 
     private static void promise10Folders() {
@@ -227,6 +331,8 @@ public final class FoldersTest {
             x.addFolder(0, 0);
         }
         Check.is("folders", 20, x.folders());
+        Check.badState("the 21st", () -> x.addFolder(0, 0));
+        Check.is("folders still", 20, x.folders());
     }
 
     private static void promises11And12TheFirstDecides() {
@@ -246,11 +352,40 @@ public final class FoldersTest {
         rightsAre(x, "the owner has all", 7, 0, 0);
     }
 
-    private static void promises11And12ScopesAndLevels() {
-        ShareMover x = new ShareMover();
-        for (int number = 1; number < 20; number++) {
-            x.addFolder(number - 1, 0);
+    private static void promises11And12EachRightAlone() {
+        for (int right : RIGHTS) {
+            ShareMover x = new ShareMover();
+            rightsAre(x, "without entries", 0, 7, 0);
+            x.allow(0, 7, false, right, ShareMover.HERE);
+            rightsAre(x, "denied alone", 0, 7, 0);
+            x.allow(0, 7, true, 7, ShareMover.HERE);
+            rightsAre(x, "all but " + right, 7 - right, 7, 0);
+            x.drop(0, 0);
+            x.drop(0, 0);
+            x.allow(0, 7, true, right, ShareMover.HERE);
+            x.allow(0, 7, false, 7, ShareMover.HERE);
+            rightsAre(x, "allowed ahead of it", right, 7, 0);
         }
+    }
+
+    /** A right that one entry has decided stays so, whatever others decide of other rights between. */
+    private static void promises11And12WhatIsDecidedStays() {
+        for (int denied : RIGHTS) {
+            for (int between : RIGHTS) {
+                if (between != denied) {
+                    ShareMover x = new ShareMover();
+                    x.allow(0, 7, false, denied, ShareMover.HERE);
+                    x.allow(0, 7, true, between, ShareMover.HERE);
+                    x.allow(0, 7, true, 7, ShareMover.HERE);
+                    x.allow(0, 7, false, 7, ShareMover.HERE);
+                    rightsAre(x, denied + " is denied ahead of " + between, 7 - denied, 7, 0);
+                }
+            }
+        }
+    }
+
+    private static void promises11And12ScopesAndLevels() {
+        ShareMover x = chain();
         x.allow(0, 1, true, 4, ShareMover.HERE);
         x.allow(0, 1, true, 2, ShareMover.BELOW);
         x.allow(0, 1, true, 1, ShareMover.BOTH);
@@ -273,6 +408,39 @@ public final class FoldersTest {
         rightsAre(x, "the one that is cut gives its own", 4, 1, 19);
     }
 
+    /** Its own entries first, then the parent's, then those of the parent's parent. */
+    private static void promises11And12TheOrder() {
+        for (int nearest = 0; nearest < 3; nearest++) {
+            ShareMover x = new ShareMover();
+            x.addFolder(0, 0);
+            x.addFolder(1, 0);
+            for (int folder = 0; folder <= nearest; folder++) {
+                boolean decides = folder == nearest;
+                x.allow(folder, 6, decides, 7, ShareMover.BOTH);
+                x.allow(folder, 7, !decides, 7, ShareMover.BOTH);
+            }
+            rightsAre(x, "allowed by the nearest", 7, 6, 2);
+            rightsAre(x, "denied by the nearest", 0, 7, 2);
+        }
+    }
+
+    /** All rows of all folders are full, and the one entry that is for 7 is the last that counts. */
+    private static void promises11And12TheLastOfAllDecides() {
+        ShareMover x = chain();
+        for (int folder = 19; folder >= 0; folder--) {
+            for (int entry = 0; entry < 6; entry++) {
+                boolean last = folder == 0 && entry == 5;
+                x.allow(folder, last ? 7 : 1 + entry, last, 7, ShareMover.BOTH);
+            }
+        }
+        rightsAre(x, "the 120th entry", 7, 7, 19);
+        rightsAre(x, "and its own folder", 7, 7, 0);
+        x.drop(19, 0);
+        x.allow(19, 7, false, 2, ShareMover.HERE);
+        rightsAre(x, "one that is ahead of it", 5, 7, 19);
+        rightsAre(x, "not one level above", 7, 7, 18);
+    }
+
     private static void promises11And12Groups() {
         ShareMover x = new ShareMover();
         x.setMember(5, 7, true);
@@ -291,15 +459,31 @@ public final class FoldersTest {
         rightsAre(x, "13 is the group 5, not a person", 6, 5, 0);
     }
 
-    private static void promises11And12WrongInputs() {
+    private static void promises11And12TheOwner() {
         ShareMover x = new ShareMover();
-        for (int folder : NO_FOLDERS) {
-            Check.noSuch("rights on " + folder, () -> x.rights(0, folder));
-            Check.noSuch("rightsBackwards on " + folder, () -> x.rightsBackwards(0, folder));
+        x.addFolder(0, 7);
+        for (int person = 0; person < 8; person++) {
+            x.setMember(2, person, true);
         }
-        for (int person : NO_PERSONS) {
-            Check.noSuch("rights of " + person, () -> x.rights(person, 0));
-            Check.noSuch("rightsBackwards of " + person, () -> x.rightsBackwards(person, 0));
-        }
+        x.allow(0, 10, false, 7, ShareMover.BOTH);
+        x.allow(1, 7, false, 7, ShareMover.HERE);
+        rightsAre(x, "denied in each way", 7, 7, 1);
+        rightsAre(x, "not above", 0, 7, 0);
+        rightsAre(x, "nor the owner above here", 0, 0, 1);
+        rightsAre(x, "who has all there", 7, 0, 0);
+    }
+
+    private static void promises11And12SwitchedOrNot() {
+        ShareMover x = new ShareMover();
+        x.allow(0, 1, true, 4, ShareMover.HERE);
+        x.pass();
+        x.turn(0);
+        x.allow(0, 1, true, 2, ShareMover.HERE);
+        x.setOwner(0, 5);
+        rightsAre(x, "by entries", 6, 1, 0);
+        rightsAre(x, "the owner now", 7, 5, 0);
+        rightsAre(x, "the owner then", 0, 0, 0);
+        x.turn(0);
+        rightsAre(x, "by entries, switched back", 6, 1, 0);
     }
 }

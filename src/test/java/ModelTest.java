@@ -9,10 +9,12 @@ import java.util.TreeSet;
  * another way (sets and maps; one right at a time).
  */
 public final class ModelTest {
-    private static final int RUNS = 150;
+    private static final int RUNS = 200;
+    // An object is used for at most so many calls.
     private static final int CALLS = 512;
 
     private long seed;
+    private int calls = 0;
 
     private ModelTest(long seed) {
         this.seed = seed;
@@ -30,9 +32,10 @@ public final class ModelTest {
         Model model = new Model();
         // Some runs ask wrongly often, some never, so that they come far.
         int wrongInPercent = pick(3) * 3;
-        for (int call = 0; call < CALLS; call++) {
-            oneCall(run + ", call " + call, x, model, wrongInPercent);
+        while (calls < CALLS - 16) {
+            oneCall(run + ", call " + calls, x, model, wrongInPercent);
         }
+        nobodyGains(run, x, pick(model.folders.size()));
     }
 
     private int pick(int below) {
@@ -57,7 +60,7 @@ public final class ModelTest {
         boolean yes = pick(3) != 0;
         int rights = pick(3) == 0 ? 7 : arg(1, 7, wrong);
         int scope = arg(0, 2, wrong);
-        switch (pick(26)) {
+        switch (pick(27)) {
             case 0, 1 -> same(where + " setMember", () -> Check.bit(x.setMember(group, person, yes)),
                     () -> Check.bit(m.setMember(group, person, yes)));
             case 2 -> same(where + " nest", () -> Check.bit(x.nest(group, inner)),
@@ -95,15 +98,13 @@ public final class ModelTest {
             case 23 -> same(where + " isFresh", () -> Check.bit(x.isFresh(folder)),
                     () -> Check.bit(m.isFresh(folder)));
             case 24 -> same(where + " turn", () -> Check.bit(x.turn(folder)), () -> Check.bit(m.turn(folder)));
-            default -> {
-                same(where + " rightsNow", () -> x.rightsNow(person, folder), () -> m.rightsNow(person, folder));
-                same(where + " gainers", () -> x.gainers(folder), () -> m.gainers(folder));
-            }
+            case 25 -> same(where + " rightsNow", () -> x.rightsNow(person, folder),
+                    () -> m.rightsNow(person, folder));
+            default -> same(where + " gainers", () -> x.gainers(folder), () -> m.gainers(folder));
         }
-        nobodyGains(where, x, folder);
     }
 
-    private static void same(String what, Check.Call got, Check.Call due) {
+    private void same(String what, Check.Call got, Check.Call due) {
         // The model's own exceptions stand for those that are due, wherever they come from.
         String expected;
         try {
@@ -112,17 +113,13 @@ public final class ModelTest {
             expected = e.getClass().getSimpleName();
         }
         Check.note(what, expected, Check.outcome(got));
+        calls++;
     }
 
-    private static void nobodyGains(String where, ShareMover x, int folder) {
-        if (folder < 0 || folder >= x.folders()) {
-            return;
-        }
+    /** Takes 16 calls. */
+    private static void nobodyGains(String run, ShareMover x, int folder) {
         for (int person = 0; person < 8; person++) {
-            int gained = x.mapped(person, folder) & ~x.rights(person, folder);
-            if (gained != 0) {
-                Check.is(where + " gained by " + person, 0, gained);
-            }
+            Check.is(run + ", gained by " + person, 0, x.mapped(person, folder) & ~x.rights(person, folder));
         }
     }
 
