@@ -1,3 +1,8 @@
+import java.lang.reflect.InvocationTargetException;
+import java.lang.reflect.Method;
+import java.util.Arrays;
+import java.util.Comparator;
+
 /** Counts the answers that are not as due; a test ends with exit code 1 if there was one. */
 final class Check {
     interface Call {
@@ -8,6 +13,32 @@ final class Check {
     private static int checks = 0;
 
     private Check() {
+    }
+
+    /** Runs each function of a test whose name bears a promise's number; one that breaks off is wrong, and the rest still run. */
+    static void promisesOf(Class<?> test) {
+        Method[] functions = test.getDeclaredMethods();
+        Arrays.sort(functions, Comparator.comparing(Method::getName));
+        for (Method function : functions) {
+            if (bearsANumber(function.getName())) {
+                run(function);
+            }
+        }
+    }
+
+    private static boolean bearsANumber(String function) {
+        return function.matches("promises?\\d.*");
+    }
+
+    private static void run(Method function) {
+        function.setAccessible(true);
+        try {
+            function.invoke(null);
+        } catch (InvocationTargetException e) {
+            note(function.getName() + ": " + e.getCause(), "an end", "broken off");
+        } catch (IllegalAccessException e) {
+            throw new IllegalStateException(e);
+        }
     }
 
     static void is(String what, long due, long got) {
@@ -34,8 +65,18 @@ final class Check {
         checks++;
         if (!due.equals(got)) {
             wrong++;
-            System.out.println(what + ": " + got + ", due is " + due);
+            System.out.println(numberedFunction() + what + ": " + got + ", due is " + due);
         }
+    }
+
+    /** The name of the test's function that bears the promise's number; empty if none does. */
+    private static String numberedFunction() {
+        for (StackTraceElement frame : new Throwable().getStackTrace()) {
+            if (bearsANumber(frame.getMethodName())) {
+                return frame.getMethodName() + ": ";
+            }
+        }
+        return "";
     }
 
     /** The answer as a text, or the exception's name; one that ShareMover's own code did not throw is told as such. */

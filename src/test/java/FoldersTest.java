@@ -3,32 +3,7 @@ public final class FoldersTest {
     private static final int[] RIGHTS = {4, 2, 1};
 
     public static void main(String[] args) {
-        promise1NewObject();
-        promise1NoGroupIsInAnother();
-        promise1ObjectsShareNothing();
-        promise5AddFolder();
-        promise5UpToTwenty();
-        promise6SetOwner();
-        promise6EachPersonAndFolder();
-        promise7SetInherits();
-        promise7EachLevelCuts();
-        promise7TheFolderWithoutParent();
-        promise8Allow();
-        promise8Everybody();
-        promise8EachRightsAndScope();
-        promise8BehindTheOthers();
-        promise9Drop();
-        promise9EachEntryOfSix();
-        promise10Folders();
-        promises11And12TheFirstDecides();
-        promises11And12EachRightAlone();
-        promises11And12WhatIsDecidedStays();
-        promises11And12ScopesAndLevels();
-        promises11And12TheOrder();
-        promises11And12TheLastOfAllDecides();
-        promises11And12Groups();
-        promises11And12TheOwner();
-        promises11And12SwitchedOrNot();
+        Check.promisesOf(FoldersTest.class);
         Check.end();
     }
 
@@ -74,6 +49,15 @@ public final class FoldersTest {
                     Check.is("was not in it", true, x.nest(outer, inner));
                     Check.is("and is not again", false, x.nest(outer, inner));
                 }
+            }
+        }
+    }
+
+    private static void promise1NoGroupHasAPerson() {
+        ShareMover x = new ShareMover();
+        for (int group = 0; group < 6; group++) {
+            for (int person = 0; person < 8; person++) {
+                Check.is(group + " has not " + person, false, x.setMember(group, person, false));
             }
         }
     }
@@ -285,33 +269,47 @@ public final class FoldersTest {
         }
     }
 
+    /** The entry with the rights 1 is for the person 7, that with 2 for 6, and so on: rights and persons differ. */
+    private static void allowSix(ShareMover x) {
+        for (int rights = 1; rights <= 6; rights++) {
+            x.allow(0, 8 - rights, true, rights, ShareMover.BOTH);
+        }
+    }
+
     private static void promise9Drop() {
         ShareMover x = new ShareMover();
-        for (int rights = 1; rights <= 6; rights++) {
-            x.allow(0, rights, rights % 2 == 0, rights, ShareMover.BOTH);
-        }
+        allowSix(x);
         Check.is("the last", 6, x.drop(0, 5));
-        Check.is("the first, which denies", 1, x.drop(0, 0));
+        Check.is("the first", 1, x.drop(0, 0));
         Check.is("the one behind moved up", 2, x.drop(0, 0));
         Check.is("the middle one", 4, x.drop(0, 1));
         rightsAre(x, "its right is gone", 0, 4, 0);
+        rightsAre(x, "the one ahead of it stays", 3, 5, 0);
         Check.is("behind it", 5, x.drop(0, 1));
         Check.is("what is left", 3, x.drop(0, 0));
         Check.noSuch("none is left", () -> x.drop(0, 0));
         Check.is("there is room again", 1, x.allow(0, 1, true, 7, ShareMover.HERE));
     }
 
+    private static void promise9EachKindOfEntry() {
+        for (int who = 0; who < 14; who++) {
+            for (int rights = 1; rights <= 7; rights++) {
+                ShareMover x = new ShareMover();
+                x.allow(0, who, rights % 2 == 0, rights, (who + rights) % 3);
+                Check.is("its rights, whoever it is for", rights, x.drop(0, 0));
+            }
+        }
+    }
+
     private static void promise9EachEntryOfSix() {
         for (int dropped = 0; dropped < 6; dropped++) {
             ShareMover x = new ShareMover();
             x.addFolder(0, 0);
-            x.allow(1, 7, true, 7, ShareMover.BOTH);
-            for (int rights = 1; rights <= 6; rights++) {
-                x.allow(0, rights, true, rights, ShareMover.BOTH);
-            }
+            x.allow(1, 1, true, 7, ShareMover.BOTH);
+            allowSix(x);
             Check.is("the rights of " + dropped, dropped + 1, x.drop(0, dropped));
-            for (int person = 1; person <= 6; person++) {
-                rightsAre(x, "person " + person, person == dropped + 1 ? 0 : person, person, 0);
+            for (int rights = 1; rights <= 6; rights++) {
+                rightsAre(x, "who had " + rights, rights == dropped + 1 ? 0 : rights, 8 - rights, 0);
             }
             Check.noSuch("there are five", () -> x.drop(0, 5));
             for (int rights = 1; rights <= 6; rights++) {
@@ -320,7 +318,7 @@ public final class FoldersTest {
                 }
             }
             Check.noSuch("none is left", () -> x.drop(0, 0));
-            rightsAre(x, "the other folder is left alone", 7, 7, 1);
+            rightsAre(x, "the other folder is left alone", 7, 1, 1);
         }
     }
 

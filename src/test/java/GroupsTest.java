@@ -1,20 +1,7 @@
 /** Promises 2 to 4: setMember, nest and members. What they throw is in RefusalsTest. */
 public final class GroupsTest {
     public static void main(String[] args) {
-        promise2SetMember();
-        promise2EachGroupAndPerson();
-        promise2EmptyAndFull();
-        promise2OnlyTheGroupItself();
-        promise3Nest();
-        promise3EachPair();
-        promise3AllPairs();
-        promise3TakesOutOnlyTheOneItself();
-        promise3NestRefusesCircles();
-        promise3CirclesAtAnyDepth();
-        promise3RefusedCallsChangeNothing();
-        promise4Members();
-        promise4EmptyAndFull();
-        promise4AtAnyDepth();
+        Check.promisesOf(GroupsTest.class);
         Check.end();
     }
 

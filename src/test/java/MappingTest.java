@@ -1,30 +1,7 @@
 /** Promises 13 to 18: the mapping of now. What they throw is in RefusalsTest. */
 public final class MappingTest {
     public static void main(String[] args) {
-        promises13To18NothingToMap();
-        promises13To18TheGreatestLosersAreNamed();
-        promises13To18TheBitsAreFoundAnew();
-        promises13To18TheLeastLossWins();
-        promises13To18NoGroupAndLowGroupsComeFirst();
-        promises13To18OwnerAndNamedAreLeftOut();
-        promises13To18OthersShareWhatAllOfThemHave();
-        promises13To18InnerGroupsAndInheritedEntries();
-        promises13To18ByEntriesSwitchedOrNot();
-        promise13EachGroup();
-        promise13OfTwoTheLowest();
-        promise13NoGroupOfSeveralWithALoss();
-        promise14EachBits();
-        promise14NobodyInTheGroup();
-        promise15HowManyAreNamed();
-        promise15OfSeveralTheLowest();
-        promise15TheGreatestLossIsOfTheMostRights();
-        promise15NotTheOwner();
-        promise14EachPersonCounts();
-        promise16EachPerson();
-        promise17TheLeastAndTheGreatest();
-        promise18EachGroup();
-        promise18ItIsNotKept();
-        promises13To18OfEachFolder();
+        Check.promisesOf(MappingTest.class);
         Check.end();
     }
 
@@ -402,6 +379,30 @@ public final class MappingTest {
         mappedIs(x, "the owner is denied all", 1, "75736622");
         x.setMember(5, 3, true);
         mappedIs(x, "a named one is in the group", 1, "75736622");
+    }
+
+    /** Rights are mapped so that nobody gains, and what somebody has less is the loss. */
+    private static void promise16NobodyGains() {
+        for (int folder = 0; folder < 20; folder++) {
+            ShareMover x = States.full();
+            int lost = 0;
+            for (int person = 0; person < 8; person++) {
+                int has = x.rights(person, folder);
+                int given = x.mapped(person, folder);
+                Check.is("gained by " + person + " on " + folder, 0, given & ~has);
+                lost += Integer.bitCount(has) - Integer.bitCount(given);
+            }
+            Check.is("17: lost on " + folder, lost, x.loss(folder));
+            Check.is("23: by a pass, too, on " + folder, 0, gainersByAPass(x, folder));
+        }
+    }
+
+    private static int gainersByAPass(ShareMover x, int folder) {
+        x.pass();
+        if (!x.turn(folder)) {
+            x.turn(folder);
+        }
+        return x.gainers(folder);
     }
 
     private static void promise17TheLeastAndTheGreatest() {

@@ -3,28 +3,7 @@ public final class PassesTest {
     private static final int CHANGES = 9;
 
     public static void main(String[] args) {
-        promise19Pass();
-        promise19OneFolderAndTwenty();
-        promises19And20EachPersonAndRight();
-        promise19OnlyRightsByTheMapping();
-        promise19KeepsRightsNotMappings();
-        promise19ComparesWithThePassBefore();
-        promise20IsFresh();
-        promise20EachChange();
-        promise20OnlyRightsByTheMapping();
-        promise21Turn();
-        promise21EachFolderOfItsOwn();
-        promise21NothingElseChanges();
-        promise22RightsNow();
-        promise22EachPersonAndFolder();
-        promise22WhatIsKeptStays();
-        promise22LaterChangesDoNotMatter();
-        promise22APassIsForSwitchedFoldersToo();
-        promise23Gainers();
-        promise23NobodyAndEverybody();
-        promise23EachPersonAndRight();
-        promise23OnlyIfSwitched();
-        the512thCall();
+        Check.promisesOf(PassesTest.class);
         Check.end();
     }
 
@@ -457,6 +436,19 @@ public final class PassesTest {
         Check.is("nothing kept", 0, x.gainers(2));
     }
 
+    private static void promise23ByEntriesNotByTheMapping() {
+        ShareMover x = lossy();
+        Check.is("by entries 4 to 6 have what the mapping takes", 0, x.gainers(1));
+        // What is kept has 1 to 3 named; of those who have all rights now, these are 0 to 2.
+        x.turn(1);
+        x.setOwner(1, 7);
+        x.drop(1, 2);
+        x.allow(1, 0, true, 7, ShareMover.HERE);
+        Check.is("by the mapping of now 3 has none", 0, x.mapped(3, 1));
+        Check.is("by entries 3 has all", 7, x.rights(3, 1));
+        Check.is("nobody gains", 0, x.gainers(1));
+    }
+
     private static void promise23Gainers() {
         ShareMover x = two();
         Check.is("nobody by entries", 0, x.gainers(0));
@@ -485,7 +477,7 @@ public final class PassesTest {
     }
 
     /** An object is used for at most 512 calls: this one is filled by the first, and asked by the rest. */
-    private static void the512thCall() {
+    private static void promises19And23UpToThe512thCall() {
         ShareMover x = new ShareMover();
         int calls = 0;
         for (int number = 1; number < 20; number++) {
